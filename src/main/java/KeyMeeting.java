@@ -25,7 +25,7 @@ public final class KeyMeeting {
     private static final int CLIENT = 0, SERVER = 1;
     private static final int SIDES = 2;
     private static final int KEY_WORDS = 16;
-    private static final int FIRST_KEY_BYTE = 65, SECOND_KEY_BYTE = 66;
+    private static final int FIRST_KEY_BYTE = 65;
 
     private static final int BEGUN = 0, OFFERED = 1, ANSWERED = 2, AGREED = 3;
     private static final int OUT_OF_RANGE = 1, NOT_TRUSTED = 2, NOT_SIGNED = 3;
@@ -199,7 +199,7 @@ public final class KeyMeeting {
         digest.put(ownX);
         digest.put(way[Y]);
         digest.put(common[side]);
-        digest.end(hashes[side]);
+        digest.end(0, 0, hashes[side], 0);
     }
 
     private void sign() {
@@ -220,15 +220,12 @@ public final class KeyMeeting {
     }
 
     private void makeKeys(int side) {
-        makeHalfOfKeys(side, FIRST_KEY_BYTE, 0);
-        makeHalfOfKeys(side, SECOND_KEY_BYTE, WORDS);
-    }
-
-    private void makeHalfOfKeys(int side, int last, int at) {
-        digest.clear();
-        digest.put(common[side]);
-        digest.put(hashes[side]);
-        digest.endWithByte(last, keys[side], at);
+        for (int half = 0; half < KEY_WORDS / WORDS; half++) {
+            digest.clear();
+            digest.put(common[side]);
+            digest.put(hashes[side]);
+            digest.end((FIRST_KEY_BYTE + half) << 24, 8, keys[side], WORDS * half);
+        }
     }
 
     /** Plain arithmetic on rows of eight words. */
@@ -344,7 +341,7 @@ public final class KeyMeeting {
 
         /** The base must be below the modulus. */
         void power(int[] base, int[] exponent, int[] out) {
-            rest(ONE, result);
+            multiply(ONE, ONE, result);
             for (int bit = Words.leadingZeros(exponent); bit < BITS; bit++) {
                 multiply(result, result, result);
                 if (Words.hasBit(exponent, bit)) {
@@ -495,7 +492,7 @@ public final class KeyMeeting {
         }
     }
 
-    /** The digest of words, with at most one byte behind them. */
+    /** The digest of words and of some bits behind them. */
     private static final class Digest {
         private static final int ROW = 16;
         private static final int ROUNDS = 64;
@@ -529,13 +526,15 @@ public final class KeyMeeting {
             }
         }
 
-        void end(int[] out) {
-            pad(0x80000000, 32L * count);
-            Words.copy(sums, out);
-        }
-
-        void endWithByte(int last, int[] out, int at) {
-            pad((last << 24) | 0x00800000, 32L * count + 8);
+        /** The highest lastBits bits of last, fewer than 32, still belong to what is digested. */
+        void end(int last, int lastBits, int[] out, int at) {
+            long bits = 32L * count + lastBits;
+            putWord(last | (0x80000000 >>> lastBits));
+            for (int i = 0; i < ROW && count % ROW != LENGTH_AT; i++) {
+                putWord(0);
+            }
+            putWord((int) (bits >>> 32));
+            putWord((int) bits);
             System.arraycopy(sums, 0, out, at, WORDS);
         }
 
@@ -545,15 +544,6 @@ public final class KeyMeeting {
             if (count % ROW == 0) {
                 mixRow();
             }
-        }
-
-        private void pad(int firstWord, long bits) {
-            putWord(firstWord);
-            for (int i = 0; i < ROW && count % ROW != LENGTH_AT; i++) {
-                putWord(0);
-            }
-            putWord((int) (bits >>> 32));
-            putWord((int) bits);
         }
 
         private void mixRow() {

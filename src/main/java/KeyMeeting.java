@@ -373,6 +373,7 @@ public final class KeyMeeting {
         private long guessDigit(int at) {
             long high = wide[at] & MASK;
             long divisor = shifted[0] & MASK;
+            // Behind this test the quotient fits a word, and the divisor is not 0.
             if (high >= divisor) {
                 return MASK;
             }
@@ -394,7 +395,6 @@ public final class KeyMeeting {
             for (int tries = 0; tries < 2 && top < 0; tries++) {
                 top += giveBack(at);
             }
-            wide[at] = (int) top;
         }
 
         private long giveBack(int at) {

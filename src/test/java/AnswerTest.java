@@ -49,9 +49,11 @@ final class AnswerTest {
         KeyMeeting otherGroup = Examples.offered(Examples.little());
         otherGroup.small(0, 9);
         CHECK.due("X is above the new P - 2", otherGroup.answer(), -1);
-        KeyMeeting widerGroup = Examples.offered(Examples.little());
-        widerGroup.small(0, 10);
-        CHECK.due("X is the new P - 2", widerGroup.answer(), 1);
+        Pair narrower = new Pair(CHECK, "narrower group").tell(Examples.little());
+        narrower.offer();
+        narrower.small(0, 10);
+        CHECK.due("X is the new P - 2", narrower.answer(), 1);
+        narrower.compare();
     }
 
     private static void faultsLeaveTheWay() {

@@ -3,37 +3,19 @@ final class AlterTest {
     private static final Check CHECK = new Check();
 
     public static void main(String[] args) {
-        onlyBetweenTheSteps();
         xorsOneWord();
-        notWhenItIsOver();
-        wrongIndexes();
+        onlyWhatIsOnTheWayNow();
+        firstAndLastMoment();
+        refusedStepsLeaveItOnTheWay();
+        alterationsAddUp();
+        wrongWhat();
+        wrongWord();
         CHECK.end();
     }
 
-    private static void onlyBetweenTheSteps() {
-        alters("begun", Examples.told(Examples.little()), false, false);
-        alters("offered", Examples.offered(Examples.little()), true, false);
-        alters("answered", Examples.answered(Examples.little()), false, true);
-        alters("agreed", Examples.agreed(Examples.little()), false, false);
-        KeyMeeting m = Examples.answered(Examples.little());
-        m.begin();
-        alters("begun anew", m, false, false);
-        m.offer();
-        alters("offered anew", m, true, false);
-    }
-
-    private static void alters(String when, KeyMeeting m, boolean x, boolean others) {
-        for (int what = 0; what < 4; what++) {
-            int due = (what == 0 ? x : others) ? 1 : 0;
-            int before = m.sent(what, 3);
-            CHECK.due(when + ": alter " + what, m.alter(what, 3, 6), due);
-            CHECK.due(when + ": sent " + what, m.sent(what, 3), due == 1 ? before ^ 6 : before);
-            CHECK.due(when + ": alter " + what + " by nothing", m.alter(what, 3, 0), due);
-        }
-    }
-
+    /** "Word i of what is on the way is altered (xored with a mask)": that word and no other. */
     private static void xorsOneWord() {
-        int[] masks = {1, -1, Integer.MIN_VALUE, 0x12345678};
+        int[] masks = {0, 1, -1, Integer.MIN_VALUE, Integer.MAX_VALUE, 0x12345678};
         for (int what = 0; what < 4; what++) {
             for (int i = 0; i < 8; i++) {
                 for (int mask : masks) {
@@ -51,27 +33,101 @@ final class AlterTest {
         }
     }
 
-    private static void notWhenItIsOver() {
-        KeyMeeting server = Examples.answered(Examples.of(23, 5, 5, 11, 0, 15, 55));
-        CHECK.due("over", server.state(), -1);
-        alters("over by the server", server, false, false);
-        KeyMeeting client = Examples.agreed(Examples.of(23, 5, 5, 11, 6, 15, 54));
-        CHECK.due("over", client.state(), -2);
-        alters("over by the client", client, false, false);
+    /** "0 when that is not on the way now (X between offer and answer, the others between answer and accept)" */
+    private static void onlyWhatIsOnTheWayNow() {
+        for (Stage stage : Stage.values()) {
+            for (int what = 0; what < 4; what++) {
+                boolean onTheWay = stage == (what == 0 ? Stage.OFFERED : Stage.ANSWERED);
+                KeyMeeting m = stage.make();
+                String before = Seen.of(m);
+                for (int i = 0; i < 8; i++) {
+                    CHECK.due(stage + ": alter " + what + " " + i, m.alter(what, i, 6), onTheWay ? 1 : 0);
+                    CHECK.due(stage + ": by nothing", m.alter(what, i, 0), onTheWay ? 1 : 0);
+                }
+                CHECK.due(stage + ": altered", Seen.of(m).equals(before) ? 0 : 1, onTheWay ? 1 : 0);
+            }
+        }
     }
 
-    private static void wrongIndexes() {
-        KeyMeeting[] all = {new KeyMeeting(), Examples.offered(Examples.little()), Examples.answered(Examples.little())};
-        for (KeyMeeting m : all) {
-            for (int what : new int[] {-1, 4, Integer.MIN_VALUE, Integer.MAX_VALUE}) {
-                CHECK.dueIndex("alter " + what, () -> m.alter(what, 0, 1));
-            }
-            for (int i : new int[] {-1, 8, Integer.MIN_VALUE, Integer.MAX_VALUE}) {
-                for (int what = 0; what < 4; what++) {
-                    int part = what;
-                    CHECK.dueIndex("alter " + what + " " + i, () -> m.alter(part, i, 1));
+    private static void firstAndLastMoment() {
+        KeyMeeting m = Stage.BEGUN.make();
+        dueOnTheWay("before offer", m, 0, 0);
+        m.offer();
+        dueOnTheWay("behind offer", m, 1, 0);
+        m.answer();
+        dueOnTheWay("behind answer", m, 0, 1);
+        m.accept();
+        dueOnTheWay("behind accept", m, 0, 0);
+        m.begin();
+        dueOnTheWay("begun anew", m, 0, 0);
+        m.offer();
+        dueOnTheWay("behind the second offer", m, 1, 0);
+        m.begin();
+        dueOnTheWay("begun behind an offer", m, 0, 0);
+        m.offer();
+        m.answer();
+        m.begin();
+        dueOnTheWay("begun behind an answer", m, 0, 0);
+    }
+
+    private static void dueOnTheWay(String when, KeyMeeting m, int x, int others) {
+        for (int what = 0; what < 4; what++) {
+            CHECK.due(when + ": alter " + what, m.alter(what, 7, 0), what == 0 ? x : others);
+        }
+    }
+
+    private static void refusedStepsLeaveItOnTheWay() {
+        KeyMeeting m = Stage.OFFERED.make();
+        m.small(0, 4);
+        m.offer();
+        m.answer();
+        m.accept();
+        dueOnTheWay("behind a bad answer", m, 1, 0);
+        m.small(0, 23);
+        m.answer();
+        m.small(0, 4);
+        m.offer();
+        m.answer();
+        m.accept();
+        dueOnTheWay("behind a bad accept", m, 0, 1);
+    }
+
+    private static void alterationsAddUp() {
+        KeyMeeting m = Stage.OFFERED.make();
+        m.alter(0, 7, 1);
+        m.alter(0, 7, 2);
+        m.alter(0, 7, 4);
+        CHECK.due("8 xored with 1, 2 and 4", m.sent(0, 7), 15);
+        CHECK.due("answer", m.answer(), 1);
+        CHECK.due("as it came", m.sent(0, 7), 15);
+    }
+
+    /** "IndexOutOfBoundsException when what is not 0 .. 3": whether something is on the way or not. */
+    private static void wrongWhat() {
+        for (Stage stage : Stage.values()) {
+            KeyMeeting m = stage.make();
+            String before = Seen.of(m);
+            for (int what : new int[] {-1, 4, 5, Integer.MIN_VALUE, Integer.MAX_VALUE}) {
+                for (int i : new int[] {-1, 0, 7, 8}) {
+                    CHECK.dueIndex(stage + ": alter " + what + " " + i, () -> m.alter(what, i, 1));
                 }
             }
+            CHECK.due(stage + ": refused", Seen.of(m), before);
+        }
+    }
+
+    /** ", or i not 0 .. 7" */
+    private static void wrongWord() {
+        for (Stage stage : Stage.values()) {
+            KeyMeeting m = stage.make();
+            String before = Seen.of(m);
+            for (int i : new int[] {-1, 8, 9, Integer.MIN_VALUE, Integer.MAX_VALUE}) {
+                for (int what = 0; what < 4; what++) {
+                    int part = what;
+                    CHECK.dueIndex(stage + ": alter " + part + " " + i, () -> m.alter(part, i, 1));
+                }
+            }
+            CHECK.due(stage + ": refused", Seen.of(m), before);
         }
     }
 }

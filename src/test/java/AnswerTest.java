@@ -1,24 +1,29 @@
 import java.math.BigInteger;
 
-/** Promise 5: answer. */
+/** Promise 5: answer, and ANSWER in the terms. */
 final class AnswerTest {
     private static final Check CHECK = new Check();
 
     public static void main(String[] args) {
         sendsNAndYAndS();
-        faultOfX();
-        faultsLeaveTheWay();
-        badNumbers();
-        notTheNextStep();
+        everyXOfItsOwn();
+        everyXThatCame();
+        rangeIsOfTheGroupOfNow();
+        hashIsOfXAsItCame();
+        faultSendsNothing();
+        badChangesNothing();
+        goodNumbersAtTheirEdges();
+        badGoesBeforeTheFault();
         CHECK.end();
     }
 
+    /** "N, Y, S go on the way" */
     private static void sendsNAndYAndS() {
+        BigInteger half = Big.TWO.pow(128);
         BigInteger[][] all = {
             Examples.little(), Examples.great(), Examples.of(29, 2, 3, 3, 3, 4), Examples.of(1000, 3, 4, 6, 7, 0),
-            {Big.MAX, Big.TWO, Big.TWO.pow(128).subtract(Big.ONE), Big.of(3), Examples.X, Big.MAX},
-            {Big.P255, Big.of(9), Big.TWO.pow(128).subtract(Big.ONE), Big.TWO.pow(128).subtract(Big.ONE), Big.ONE,
-                Big.ONE},
+            {Big.MAX, Big.TWO, half.subtract(Big.ONE), Big.of(3), Examples.X, Big.MAX},
+            {Big.P255, Big.of(9), half.subtract(Big.ONE), half.subtract(Big.ONE), Big.ONE, Big.ONE},
         };
         for (BigInteger[] numbers : all) {
             Pair pair = new Pair(CHECK, "answer").tell(numbers);
@@ -26,73 +31,122 @@ final class AnswerTest {
             CHECK.due("answer", pair.answer(), 1);
             CHECK.due("state", pair.real.state(), 2);
             pair.compare();
+            for (int what = 0; what < 4; what++) {
+                CHECK.due(what + " is on the way", pair.alter(what, 0, 0), what == 0 ? 0 : 1);
+            }
         }
         KeyMeeting m = Examples.answered(Examples.little());
         CHECK.due("N", m.sent(1, 7), 55);
         CHECK.due("Y", m.sent(2, 7), 19);
+        CHECK.due("S", m.sent(3, 7), 35);
     }
 
-    /** The same X, once in its range and once out of it, by what the way makes of it. */
-    private static void faultOfX() {
-        int[] came = {0, 1, 2, 3, 20, 21, 22, 23, 24, -1};
-        for (int x : came) {
-            KeyMeeting m = Examples.offered(Examples.little());
-            m.alter(0, 7, 8 ^ x);
-            boolean fit = x >= 2 && x <= 21;
-            CHECK.due("answer to " + x, m.answer(), fit ? 1 : -1);
+    /** "fault 1 (the server's) unless it is from 2 to P - 2": 5 generates all of 1 .. 22 modulo 23. */
+    private static void everyXOfItsOwn() {
+        for (int x = 0; x < 22; x++) {
+            KeyMeeting m = Examples.offered(Examples.of(23, 5, 5, 11, x, 15, 55));
+            int sent = m.sent(0, 7);
+            boolean fit = sent >= 2 && sent <= 21;
+            CHECK.due("answer to " + sent, m.answer(), fit ? 1 : -1);
             CHECK.due("state", m.state(), fit ? 2 : -1);
-            CHECK.due("X as it came", m.sent(0, 7), x);
         }
-        KeyMeeting high = Examples.offered(Examples.little());
-        high.alter(0, 0, 1);
-        CHECK.due("answer to a great X", high.answer(), -1);
-        KeyMeeting otherGroup = Examples.offered(Examples.little());
-        otherGroup.small(0, 9);
-        CHECK.due("X is above the new P - 2", otherGroup.answer(), -1);
-        Pair narrower = new Pair(CHECK, "narrower group").tell(Examples.little());
-        narrower.offer();
-        narrower.small(0, 10);
-        CHECK.due("X is the new P - 2", narrower.answer(), 1);
-        narrower.compare();
+        CHECK.due("answer to 0", Examples.offered(Examples.of(8, 2, 5, 11, 3, 15)).answer(), -1);
     }
 
-    private static void faultsLeaveTheWay() {
+    /** "the server takes X as it came": whatever the way has made of it. */
+    private static void everyXThatCame() {
+        for (BigInteger group : Big.GROUPS) {
+            for (BigInteger x : Big.aroundTheRange(group)) {
+                Pair pair = new Pair(CHECK, "X came as " + x + " modulo " + group);
+                pair.tell(group, Big.TWO, Big.of(5), Big.of(11), Big.ONE, Big.of(3));
+                pair.offer();
+                pair.makeSent(0, x);
+                CHECK.due("answer to " + x + " modulo " + group, pair.answer(),
+                    Big.isFrom2ToPMinus2(x, group) ? 1 : -1);
+                pair.compare();
+            }
+        }
+    }
+
+    private static void rangeIsOfTheGroupOfNow() {
+        int[] groups = {7, 8, 9, 10, 11};
+        for (int group : groups) {
+            Pair pair = new Pair(CHECK, "8 in the group " + group).tell(Examples.little());
+            pair.offer();
+            pair.small(0, group);
+            CHECK.due("answer to 8 modulo " + group, pair.answer(), group >= 10 ? 1 : -1);
+            pair.compare();
+        }
+    }
+
+    /** "the HASH is the digest of the words of P, G, N, X (as it came), Y, K" */
+    private static void hashIsOfXAsItCame() {
+        for (int i = 0; i < 8; i++) {
+            Pair pair = new Pair(CHECK, "word " + i + " of X altered").tell(Examples.great());
+            pair.offer();
+            pair.alter(0, i, 1);
+            CHECK.due("answer", pair.answer(), 1);
+            pair.compare();
+        }
+    }
+
+    /** With the fault nothing is sent: N, Y and S are as they were, 0 or of the meeting before. */
+    private static void faultSendsNothing() {
         KeyMeeting m = Examples.offered(Examples.of(23, 5, 5, 11, 0, 15, 55));
         CHECK.due("answer", m.answer(), -1);
-        CHECK.due("N", m.sent(1, 7), 0);
-        CHECK.due("Y", m.sent(2, 7), 0);
-        CHECK.due("alter", m.alter(0, 7, 1) + m.alter(1, 7, 1), 0);
-        CHECK.due("answer again", m.answer(), KeyMeeting.STATE);
-        CHECK.due("accept", m.accept(), KeyMeeting.STATE);
+        for (int what = 1; what < 4; what++) {
+            Big.due(CHECK, "sent " + what, Big.sent(m, what), Big.ZERO);
+        }
+        KeyMeeting second = Stage.AGREED.make();
+        second.begin();
+        second.small(4, 0);
+        second.small(5, 2);
+        second.small(2, 3);
+        second.offer();
+        CHECK.due("answer", second.answer(), -1);
+        CHECK.due("N", second.sent(1, 7), 55);
+        CHECK.due("Y", second.sent(2, 7), 19);
+        CHECK.due("S", second.sent(3, 7), 35);
     }
 
-    private static void badNumbers() {
-        long[][] bad = {{0, 4}, {1, 1}, {1, 22}, {2, 2}, {3, 0}, {2, 65538}, {3, 65538}};
-        for (long[] change : bad) {
-            Pair pair = new Pair(CHECK, "bad " + change[0] + " " + change[1]).tell(Examples.little());
+    /** "BAD when the numbers are not as OFFER wants them (nothing changes)" */
+    private static void badChangesNothing() {
+        for (BigInteger[] change : BadNumbers.bad()) {
+            String name = "number " + change[0] + " is " + change[1];
+            Pair pair = new Pair(CHECK, name).tell(Examples.little());
+            int what = change[0].intValue();
             pair.offer();
             pair.alter(0, 7, 3);
-            pair.small((int) change[0], change[1]);
-            CHECK.due("answer", pair.answer(), KeyMeeting.BAD);
-            CHECK.due("state", pair.real.state(), 1);
-            pair.compare();
-            pair.small((int) change[0], Examples.little()[(int) change[0]].longValue());
-            CHECK.due("answer when mended", pair.answer(), 1);
+            pair.number(what, change[1]);
+            String before = Seen.of(pair.real);
+            CHECK.due(name + ": answer", pair.answer(), KeyMeeting.BAD);
+            CHECK.due(name, Seen.of(pair.real), before);
+            CHECK.due(name + ": X is still on the way", pair.alter(0, 7, 1), 1);
+            CHECK.due(name + ": accept", pair.accept(), KeyMeeting.STATE);
+            pair.number(what, Examples.little()[what]);
+            CHECK.due(name + ": answer when mended", pair.answer(), 1);
             pair.compare();
         }
-        KeyMeeting m = Examples.offered(Examples.of(23, 5, 5, 11, 0, 15));
-        m.small(0, 4);
-        CHECK.due("BAD goes before the fault", m.answer(), KeyMeeting.BAD);
     }
 
-    private static void notTheNextStep() {
-        KeyMeeting begun = Examples.told(Examples.little());
-        CHECK.due("answer before offer", begun.answer(), KeyMeeting.STATE);
-        CHECK.due("state", begun.state(), 0);
-        KeyMeeting answered = Examples.answered(Examples.little());
-        answered.small(0, 0);
-        CHECK.due("answer behind answer", answered.answer(), KeyMeeting.STATE);
-        CHECK.due("answer behind accept", Examples.agreed(Examples.little()).answer(), KeyMeeting.STATE);
-        CHECK.due("answer to nothing", new KeyMeeting().answer(), KeyMeeting.STATE);
+    private static void goodNumbersAtTheirEdges() {
+        for (BigInteger[] change : BadNumbers.good()) {
+            String name = "number " + change[0] + " is " + change[1];
+            Pair pair = new Pair(CHECK, name).tell(Examples.little());
+            pair.small(4, 1);
+            pair.offer();
+            pair.number(change[0].intValue(), change[1]);
+            CHECK.due(name + ": answer", pair.answer(), 1);
+            pair.compare();
+        }
+    }
+
+    private static void badGoesBeforeTheFault() {
+        for (BigInteger[] change : BadNumbers.bad()) {
+            KeyMeeting m = Examples.offered(Examples.of(23, 5, 5, 11, 0, 15));
+            Big.tell(m, change[0].intValue(), change[1]);
+            CHECK.due("number " + change[0] + " is " + change[1] + ": answer", m.answer(), KeyMeeting.BAD);
+            CHECK.due("state", m.state(), 1);
+        }
     }
 }

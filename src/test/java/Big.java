@@ -12,6 +12,14 @@ final class Big {
     static final BigInteger P128 = TWO.pow(128).subtract(of(159));
     static final BigInteger P127 = TWO.pow(127).subtract(ONE);
 
+    /** Groups at the edges of words: there borrows and signs of words would show. */
+    static final BigInteger[] GROUPS = {
+        of(5), of(6), of(23), TWO.pow(31), TWO.pow(31).add(TWO), TWO.pow(32).subtract(ONE), TWO.pow(32),
+        TWO.pow(32).add(ONE), TWO.pow(32).add(TWO), TWO.pow(32).add(of(3)), TWO.pow(63), TWO.pow(64).add(ONE),
+        TWO.pow(96), TWO.pow(128), TWO.pow(160).add(TWO), TWO.pow(192).add(ONE), TWO.pow(224), P255, TWO.pow(255),
+        TWO.pow(255).add(ONE), P256, MAX.subtract(ONE), MAX,
+    };
+
     private Big() {
     }
 
@@ -46,6 +54,25 @@ final class Big {
             v = v.shiftLeft(32).or(of(m.sent(what, i) & 0xffffffffL));
         }
         return v;
+    }
+
+    /** Alters what is on the way until it is v. */
+    static void makeSent(KeyMeeting m, int what, BigInteger v) {
+        for (int i = 0; i < 8; i++) {
+            m.alter(what, i, m.sent(what, i) ^ word(v, i));
+        }
+    }
+
+    static boolean isFrom2ToPMinus2(BigInteger v, BigInteger group) {
+        return v.compareTo(TWO) >= 0 && v.compareTo(group.subtract(TWO)) <= 0;
+    }
+
+    /** Just inside and just outside of 2 .. P - 2, and the ends of words and of all numbers. */
+    static BigInteger[] aroundTheRange(BigInteger group) {
+        return new BigInteger[] {
+            ZERO, ONE, TWO, of(3), group.subtract(of(3)), group.subtract(TWO), group.subtract(ONE), group,
+            group.add(ONE).min(MAX), group.add(TWO).min(MAX), TWO.pow(32), TWO.pow(32).add(TWO), TWO.pow(255), MAX,
+        };
     }
 
     static BigInteger secret(KeyMeeting m) {

@@ -8,6 +8,12 @@ final class Check {
         }
     }
 
+    void due(String call, String got, String want) {
+        if (!got.equals(want)) {
+            tell(call + ": seen is " + got + ", due is " + want);
+        }
+    }
+
     void dueIndex(String call, Runnable run) {
         dueThrow(call, run, IndexOutOfBoundsException.class);
     }

@@ -8,11 +8,13 @@ import java.util.TreeSet;
 /** The public face: what the document prints, and nothing more that is seen from outside. */
 final class FaceTest {
     private static final Check CHECK = new Check();
+    private static final String INDEX = " IndexOutOfBoundsException";
     private static final Set<String> WANT = Set.of(
         "NONE int", "BAD int", "STATE int", "new ()",
-        "number (int, int, int) void", "small (int, long) void", "offer () int", "answer () int", "accept () int",
-        "alter (int, int, int) int", "sent (int, int) int", "key (int, int) int", "state () int", "begin () void",
-        "secret (int) int");
+        "number (int, int, int) void" + INDEX, "small (int, long) void" + INDEX + " IllegalArgumentException",
+        "offer () int", "answer () int", "accept () int", "alter (int, int, int) int" + INDEX,
+        "sent (int, int) int" + INDEX, "key (int, int) int" + INDEX + " IllegalStateException", "state () int",
+        "begin () void", "secret (int) int" + INDEX);
 
     public static void main(String[] args) {
         CHECK.due("NONE", KeyMeeting.NONE, -1);
@@ -23,7 +25,16 @@ final class FaceTest {
         if (!face.equals(WANT)) {
             CHECK.tell("the face is " + new TreeSet<>(face) + ", due is " + new TreeSet<>(WANT));
         }
+        classesInside();
         CHECK.end();
+    }
+
+    private static void classesInside() {
+        for (Class<?> inside : KeyMeeting.class.getDeclaredClasses()) {
+            int modifiers = inside.getModifiers();
+            CHECK.due(inside + " is static", modifiers & Modifier.STATIC, Modifier.STATIC);
+            CHECK.due(inside + " is not seen", modifiers & (Modifier.PUBLIC | Modifier.PROTECTED), 0);
+        }
     }
 
     private static Set<String> face() {
@@ -36,10 +47,12 @@ final class FaceTest {
         }
         for (Constructor<?> constructor : KeyMeeting.class.getDeclaredConstructors()) {
             face.add("new " + types(constructor.getParameterTypes()));
+            CHECK.due("constructor", constructor.getModifiers(), Modifier.PUBLIC);
         }
         for (Method method : KeyMeeting.class.getDeclaredMethods()) {
             if (isSeen(method.getModifiers())) {
-                face.add(method.getName() + " " + types(method.getParameterTypes()) + " " + method.getReturnType());
+                face.add(method.getName() + " " + types(method.getParameterTypes()) + " " + method.getReturnType()
+                    + thrown(method));
                 CHECK.due(method.getName(), method.getModifiers(), Modifier.PUBLIC);
             }
         }
@@ -48,6 +61,14 @@ final class FaceTest {
 
     private static boolean isSeen(int modifiers) {
         return !Modifier.isPrivate(modifiers);
+    }
+
+    private static String thrown(Method method) {
+        StringBuilder text = new StringBuilder();
+        for (Class<?> type : method.getExceptionTypes()) {
+            text.append(' ').append(type.getSimpleName());
+        }
+        return text.toString();
     }
 
     private static String types(Class<?>[] all) {

@@ -88,6 +88,10 @@ final class Model {
         return 1;
     }
 
+    void begin() {
+        state = 0;
+    }
+
     boolean hasKeys() {
         return state == 3;
     }
@@ -126,7 +130,7 @@ final class Model {
     }
 
     private boolean inRange(BigInteger v) {
-        return v.compareTo(Big.TWO) >= 0 && v.compareTo(told[0].subtract(Big.TWO)) <= 0;
+        return Big.isFrom2ToPMinus2(v, told[0]);
     }
 
     private static byte[] keysOf(BigInteger common, BigInteger hash) {

@@ -6,6 +6,7 @@ final class Pair {
     final Model model = new Model();
     private final Check check;
     private final String name;
+    private int calls = 0;
 
     Pair(Check check, String name) {
         this.check = check;
@@ -20,17 +21,20 @@ final class Pair {
     }
 
     Pair number(int what, BigInteger v) {
+        count(8);
         Big.tell(real, what, v);
         model.told[what] = v;
         return this;
     }
 
     void word(int what, int i, int v) {
+        count(1);
         real.number(what, i, v);
         model.told[what] = Big.withWord(model.told[what], i, v);
     }
 
     void small(int what, long v) {
+        count(1);
         real.small(what, v);
         model.told[what] = Big.of(v);
     }
@@ -51,13 +55,31 @@ final class Pair {
         return same("alter " + what + " " + i, real.alter(what, i, mask), model.alter(what, i, mask));
     }
 
+    /** Alters what is on the way until it is v. */
+    void makeSent(int what, BigInteger v) {
+        for (int i = 0; i < 8; i++) {
+            alter(what, i, Big.word(model.sent[what], i) ^ Big.word(v, i));
+        }
+    }
+
     void begin() {
+        count(1);
         real.begin();
-        model.state = 0;
+        model.begin();
+    }
+
+    void state() {
+        same("state", real.state(), model.state);
+    }
+
+    /** Some calls may still be made, 512 in all: what later ones answer is free. */
+    boolean hasRoomFor(int more) {
+        return calls + more <= 512;
     }
 
     void compare() {
-        same("state", real.state(), model.state);
+        state();
+        count(40);
         for (int what = 0; what < 4; what++) {
             Big.due(check, name + ": sent " + what, Big.sent(real, what), model.sent[what]);
         }
@@ -74,12 +96,21 @@ final class Pair {
         if (model.hasKeys()) {
             same(call, real.key(side, i), model.key(side, i));
         } else {
+            count(1);
             check.dueState(name + ": " + call, () -> real.key(side, i));
         }
     }
 
     private int same(String call, int got, int want) {
+        count(1);
         check.due(name + ": " + call, got, want);
         return got;
+    }
+
+    private void count(int more) {
+        if (!hasRoomFor(more)) {
+            check.tell(name + ": this test makes more than 512 calls");
+        }
+        calls += more;
     }
 }

@@ -1,10 +1,12 @@
 import java.math.BigInteger;
 import java.util.Random;
 
-/** All promises: runs of calls by chance (always the same), compared with the model after every step. */
+/** All promises: runs of calls by chance (always the same), up to the 512th call, compared with the model. */
 final class RandomRunsTest {
     private static final Check CHECK = new Check();
     private static final long[] LEASTS = {0, 1, 2, 3, 4, 5, 6, 7, 11, 23, 65537, 65538};
+
+    private static final int MOST_OF_ONE_TURN = 60, ALL_SEEN = 73;
 
     private final Random random;
     private final Pair pair;
@@ -15,7 +17,7 @@ final class RandomRunsTest {
     }
 
     public static void main(String[] args) {
-        for (int seed = 0; seed < 1500; seed++) {
+        for (int seed = 0; seed < 2500; seed++) {
             new RandomRunsTest(seed).run();
         }
         CHECK.end();
@@ -24,15 +26,23 @@ final class RandomRunsTest {
     private void run() {
         boolean little = random.nextBoolean();
         tellAll(little);
-        for (int i = 0; i < 30; i++) {
+        while (pair.hasRoomFor(MOST_OF_ONE_TURN + ALL_SEEN)) {
             call(little);
-            pair.compare();
+            pair.state();
+            if (random.nextInt(12) == 0 && pair.hasRoomFor(MOST_OF_ONE_TURN + 2 * ALL_SEEN)) {
+                pair.compare();
+            }
         }
+        pair.compare();
     }
 
     private void tellAll(boolean little) {
         for (int what = 0; what < 6; what++) {
-            pair.number(what, little ? Big.of(5 + random.nextInt(60)) : great(what));
+            if (little) {
+                pair.small(what, 5 + random.nextInt(60));
+            } else {
+                pair.number(what, great(what));
+            }
         }
         trustTheHost();
     }
@@ -55,11 +65,11 @@ final class RandomRunsTest {
     }
 
     private void call(boolean little) {
-        switch (random.nextInt(14)) {
+        switch (random.nextInt(16)) {
             case 0, 1 -> pair.offer();
             case 2, 3 -> pair.answer();
             case 4, 5 -> pair.accept();
-            case 6, 7 -> next();
+            case 6, 7, 13, 14 -> next();
             case 8 -> pair.alter(random.nextInt(4), little ? 7 : random.nextInt(8), random.nextInt(little ? 4 : 100));
             case 9 -> pair.begin();
             case 10 -> pair.small(random.nextInt(7), LEASTS[random.nextInt(LEASTS.length)]);

@@ -1,33 +1,31 @@
 /** Promise 3: small. */
 final class SmallTest {
     private static final Check CHECK = new Check();
+    private static final long[] VALUES = {0, 1, 2, 3, 4, 5, 0x7fffffffL, 0x80000000L, 0xffffffffL, 0x100000000L,
+        0x123456789abcdef0L, Long.MAX_VALUE - 1, Long.MAX_VALUE};
 
     public static void main(String[] args) {
-        otherWordsAreNought();
         valuesFillTwoWords();
-        wrongArguments();
+        meetingsFollow();
+        otherWordsAreNought();
+        wrongWhat();
+        belowNought();
+        refusedCallsChangeNothing();
         CHECK.end();
     }
 
-    private static void otherWordsAreNought() {
-        long[] values = {23, 5, 5, 11, 6, 15, 55};
-        Pair pair = new Pair(CHECK, "other words");
-        for (int what = 0; what < 7; what++) {
-            pair.number(what, Big.MAX);
-            pair.small(what, values[what]);
+    /** "Number what is a number from 0 on": with x = 1 what is sent as X is G itself. */
+    private static void valuesFillTwoWords() {
+        for (long v : VALUES) {
+            KeyMeeting m = Examples.told(Big.MAX, Big.MAX, Big.of(5), Big.of(11), Big.ONE);
+            m.small(1, v);
+            CHECK.due("offer with G = " + v, m.offer(), v >= 2 ? 1 : KeyMeeting.BAD);
+            Big.due(CHECK, "X", Big.sent(m, 0), v >= 2 ? Big.of(v) : Big.ZERO);
         }
-        CHECK.due("offer", pair.offer(), 1);
-        CHECK.due("X", pair.real.sent(0, 7), 8);
-        CHECK.due("answer", pair.answer(), 1);
-        CHECK.due("Y", pair.real.sent(2, 7), 19);
-        CHECK.due("accept", pair.accept(), 1);
-        pair.compare();
     }
 
-    private static void valuesFillTwoWords() {
-        long[] values = {0, 1, 2, 3, 0x7fffffffL, 0x80000000L, 0xffffffffL, 0x100000000L, 0x123456789abcdef0L,
-            Long.MAX_VALUE};
-        for (long v : values) {
+    private static void meetingsFollow() {
+        for (long v : VALUES) {
             for (int what = 0; what < 7; what++) {
                 Pair pair = new Pair(CHECK, "small " + what + " " + v).tell(Examples.great());
                 pair.small(what, v);
@@ -39,17 +37,66 @@ final class SmallTest {
         }
     }
 
-    private static void wrongArguments() {
-        KeyMeeting m = Examples.told(Examples.little());
-        for (int what : new int[] {-1, 7, Integer.MIN_VALUE, Integer.MAX_VALUE}) {
-            CHECK.dueIndex("small " + what, () -> m.small(what, 1));
-            CHECK.dueIndex("small " + what + " below 0", () -> m.small(what, -1));
+    /** "its other words are 0": each of the seven, when all its words were told before. */
+    private static void otherWordsAreNought() {
+        for (int what = 0; what < 7; what++) {
+            for (int i = 0; i < 8; i++) {
+                Pair pair = new Pair(CHECK, "word " + i + " of " + what).tell(Examples.little());
+                pair.word(what, i, -1);
+                pair.small(what, Examples.little()[what].longValue());
+                CHECK.due("offer", pair.offer(), 1);
+                CHECK.due("answer", pair.answer(), 1);
+                CHECK.due("accept", pair.accept(), 1);
+                pair.compare();
+            }
         }
+    }
+
+    /** "IndexOutOfBoundsException": for what, as by number; it is looked at before v. */
+    private static void wrongWhat() {
+        KeyMeeting m = new KeyMeeting();
+        for (int what : new int[] {-1, 7, 8, Integer.MIN_VALUE, Integer.MAX_VALUE}) {
+            for (long v : new long[] {0, 1, Long.MAX_VALUE, -1, Long.MIN_VALUE}) {
+                CHECK.dueIndex("small " + what + " " + v, () -> m.small(what, v));
+            }
+        }
+    }
+
+    /** "IllegalArgumentException when v is below 0" */
+    private static void belowNought() {
+        KeyMeeting m = new KeyMeeting();
         for (int what = 0; what < 7; what++) {
             int number = what;
-            CHECK.dueArgument("small below 0", () -> m.small(number, -1));
-            CHECK.dueArgument("small at its lowest", () -> m.small(number, Long.MIN_VALUE));
+            for (long v : new long[] {-1, -2, Integer.MIN_VALUE, -0x100000000L, Long.MIN_VALUE}) {
+                CHECK.dueArgument("small " + number + " " + v, () -> m.small(number, v));
+            }
+            m.small(number, 0);
         }
-        CHECK.due("nothing changed", m.offer() + m.answer() + m.accept(), 3);
+    }
+
+    private static void refusedCallsChangeNothing() {
+        for (Stage stage : Stage.values()) {
+            KeyMeeting m = stage.make();
+            String before = Seen.of(m);
+            refuseAll(m);
+            CHECK.due(stage + ": refused calls", Seen.of(m), before);
+        }
+        Pair pair = new Pair(CHECK, "refused").tell(Examples.great());
+        refuseAll(pair.real);
+        CHECK.due("offer", pair.offer(), 1);
+        refuseAll(pair.real);
+        CHECK.due("answer", pair.answer(), 1);
+        refuseAll(pair.real);
+        CHECK.due("accept", pair.accept(), 1);
+        pair.compare();
+    }
+
+    private static void refuseAll(KeyMeeting m) {
+        for (int what = 0; what < 7; what++) {
+            int number = what;
+            CHECK.dueArgument("small " + number + " -1", () -> m.small(number, -1));
+        }
+        CHECK.dueIndex("small -1", () -> m.small(-1, 7));
+        CHECK.dueIndex("small 7", () -> m.small(7, 7));
     }
 }

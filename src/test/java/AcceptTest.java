@@ -19,6 +19,7 @@ final class AcceptTest {
         theLeastN();
         orderOfFaults();
         clientTakesItsOwnX();
+        clientKeepsTheXItSent();
         clientTakesNumbersOfNow();
         badChangesNothing();
         goodNumbersAtTheirEdges();
@@ -85,7 +86,8 @@ final class AcceptTest {
             dueAccept("Y = " + sent, m, sent >= 2 && sent <= 21 ? 1 : -1);
         }
         dueAccept("Y = 0", Examples.answered(Examples.of(16, 2, 5, 11, 1, 4, 55)), -1);
-        BigInteger[] highest = {Big.MAX, Big.MAX.subtract(Big.TWO), Big.of(5), Big.of(11), Big.of(3), Big.ONE, Big.of(55)};
+        BigInteger highestG = Big.MAX.subtract(Big.TWO);
+        BigInteger[] highest = {Big.MAX, highestG, Big.of(5), Big.of(11), Big.of(3), Big.ONE, Big.of(55)};
         dueAccept("Y = P - 2", Examples.answered(highest), 1);
     }
 
@@ -225,6 +227,16 @@ final class AcceptTest {
         boolean agreed = pair.accept() == 1;
         pair.compare();
         return agreed && pair.real.key(0, 0) != pair.real.key(1, 0);
+    }
+
+    /** Y = 2 has the order 11 modulo 23: with x = 6 + 11 K is the same, and only X = G^x would be another. */
+    private static void clientKeepsTheXItSent() {
+        for (int x = 0; x <= 28; x++) {
+            KeyMeeting m = Examples.answered(Examples.of(23, 5, 1000003, 1000033, 6, 2, 1000036000099L));
+            CHECK.due("Y", m.sent(2, 7), 2);
+            m.small(4, x);
+            dueAccept("x is " + x + " by now", m, x % 11 == 6 ? 1 : -3);
+        }
     }
 
     /** "its K is Y^x modulo P": of x, P and G as they are told by now; the host's p and q are not the client's. */

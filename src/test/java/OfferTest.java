@@ -119,13 +119,14 @@ final class OfferTest {
         }
     }
 
-    /** A bad offer behind a meeting leaves what was sent then, a good one sends X alone anew. */
+    /** A bad offer behind a meeting changes nothing either, a good one sends X anew. */
     private static void offerAnew() {
         KeyMeeting m = Stage.AGREED.make();
         m.begin();
         m.small(0, 4);
+        String before = Seen.of(m);
         CHECK.due("bad offer", m.offer(), KeyMeeting.BAD);
-        CHECK.due("X stays", m.sent(0, 7), 8);
+        CHECK.due("bad offer", Seen.of(m), before);
         m.small(0, 23);
         m.small(4, 1);
         CHECK.due("offer", m.offer(), 1);
